@@ -777,7 +777,7 @@ public final class DrawLooms {
         private boolean isClosed = false;
         private final int[] starts = new int[MOST_SQUARES];
         private final int[] lengths = new int[MOST_SQUARES];
-        private final int[] costs = new int[MOST_SQUARES + 2];
+        private final int[] costs = new int[MOST_SQUARES + 1];
 
         void readFrom(Sheet sheet, int y) {
             wide = sheet.wide;
@@ -824,14 +824,9 @@ public final class DrawLooms {
             return sum % MENDED;
         }
 
-        /** Of the first (limit and 1) columns of a closed run one must be mended: each is tried. */
+        /** Column 0 is in the least set of a closed run: without it, all could go down by one column. */
         private int closedCost(int limit) {
-            int least = Integer.MAX_VALUE;
-            for (int first = 0; first <= limit; first++) {
-                int cost = costOf(first) + openCost(first + 1, wide - 1, limit);
-                least = Math.min(least, cost);
-            }
-            return least;
+            return costOf(0) + openCost(1, wide - 1, limit);
         }
 
         /** costs[i]: the least with the i-th square mended; 0 and the last stand for the run's borders. */

@@ -280,6 +280,11 @@ public final class PromisesTest {
         due.is("what", x.pullOf(0, -1), -2);
         refusals(x, 9, 2, 0, 0, 0, 0);
         due.is("pulls of one colour each", new DrawLooms().pulls(), 8);
+        x = drawn("123", "111");
+        due.is("colours that are not there", x.pulls(), 4);
+        due.is("the first one", x.pullOf(0, 1), 1);
+        due.is("the last one", x.pullOf(3, 1), 1);
+        due.is("the last one", x.pullOf(3, 0), 1);
     }
 
     // ---- promises 13 to 15
@@ -341,6 +346,21 @@ public final class PromisesTest {
         x = drawn("00");
         x.limit(1);
         due.is("two", x.mend(0), 1);
+        x = drawn("00000000000000000000", "00000000000000000001", "01010101010101010101",
+            "22222222221111111111", "11111333333333311111");
+        x.limit(1);
+        due.is("twenty, closed", x.mend(0), 0x55555);
+        due.is("nineteen", x.mend(1), 0x2aaaa);
+        due.is("twenty runs", x.mend(2), 0);
+        due.is("twenty runs", x.floats(2, 0), 0);
+        due.is("twenty runs", x.floats(2, 1), 1);
+        due.is("two runs of ten", x.mend(3), 0x55555);
+        due.is("one of them round", x.mend(4), 0x2aa0 | 1 << 16 | 1 << 18 | 1 | 2 | 8);
+        x.limit(9);
+        due.is("two runs of ten", x.mend(3), 1 | 1 << 10);
+        due.is("one of them round", x.mend(4), 1 | 1 << 5);
+        x.limit(20);
+        due.is("nothing is mended", x.mend(0), 0);
     }
 
     // ---- promises 16 to 21
@@ -430,6 +450,49 @@ public final class PromisesTest {
         due.is("they are told still", x.count(8), 3);
         draw(x, "12", "12");
         due.is("they are there again", x.weave(), 4);
+        x.clear();
+        draw(x, "0123");
+        x.fault(3, 0, 2);
+        draw(x, "0111");
+        due.is("one of two cords is there", x.weave(), 0);
+        x.clear();
+        draw(x, "0123");
+        x.fault(3, 2, 0);
+        draw(x, "0111");
+        due.is("one of two cords is there", x.weave(), 0);
+        isCloth(x, "0111");
+        greatestCloth();
+    }
+
+    private static void greatestCloth() {
+        DrawLooms x = new DrawLooms();
+        x.paper(20, 20);
+        for (int y = 0; y < 20; y++) {
+            x.fill(y, y, 20, 1);
+            x.square(y, y, 2);
+        }
+        due.is("cords", x.cords(), 20);
+        due.is("mirror", x.mirror(0), -9);
+        due.is("span", x.span(1), 20);
+        x.fault(2, 19, 0);
+        due.is("last pick skipped", x.weave(), 20);
+        isExplained(x, 2, 19, -9);
+        x.fault(2, 0, 0);
+        due.is("first pick skipped", x.weave(), 19 * 2 + 20);
+        isExplained(x, 2, 0, -9);
+        x.clear();
+        x.fault(3, 19, 18);
+        due.is("last cords crossed", x.weave(), 4);
+        isExplained(x, 3, 18, 19);
+        x.clear();
+        x.fault(1, 19, 0);
+        due.is("last cord broken", x.weave(), 20);
+        isExplained(x, 1, 19, -9);
+        due.is("cards", x.cards(3), 1);
+        x.square(19, 19, 0);
+        isBeam(x, 3, 2, 0, 1);
+        due.is("hang", x.hang(3), 400);
+        due.is("at", x.at(19, 19), 2);
     }
 
     private static void seeing() {
@@ -609,6 +672,23 @@ public final class PromisesTest {
             x.order(2, 5, 2000);
         }
         due.is("more than 7", x.best(), -3);
+        firstByNumbers();
+    }
+
+    private static void firstByNumbers() {
+        DrawLooms x = new DrawLooms();
+        for (int i = 0; i < 12; i++) {
+            x.order(2, 1, 2000);
+        }
+        x.law(0, 3, 0);
+        due.is("open", x.count(4), 12);
+        for (int i = 0; i < 5; i++) {
+            due.is("work", x.work(2 * i), 0);
+        }
+        due.is("paid", x.count(6), 5 * 2 * 3);
+        isBest(x, 0, 1, 3, 5, 7, 9, 10, 11);
+        x.days(1995);
+        isBest(x, 4 + 5 + 6 + 7 + 8 + 9 + 10, 1, 3, 5, 7, 9, 10, 11);
     }
 
     private static void isBest(DrawLooms x, int late, int... row) {
