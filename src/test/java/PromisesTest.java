@@ -689,6 +689,13 @@ public final class PromisesTest {
         isBest(x, 0, 1, 3, 5, 7, 9, 10, 11);
         x.days(1995);
         isBest(x, 4 + 5 + 6 + 7 + 8 + 9 + 10, 1, 3, 5, 7, 9, 10, 11);
+        due.is("work", x.work(11), 4);
+        isBest(x, 5 + 6 + 7 + 8 + 9 + 10, 1, 3, 5, 7, 9, 10);
+        for (int i = 0; i < 6; i++) {
+            due.is("work", x.work(i < 5 ? 2 * i + 1 : 10), 5 + i);
+        }
+        isBest(x, 0);
+        due.is("paid, all twelve", x.count(6), 12 * 2 * 3);
     }
 
     private static void isBest(DrawLooms x, int late, int... row) {
