@@ -18,6 +18,8 @@ public final class DrawLooms {
     private static final int APART = 2000000000;
     /** The answer for what there is not; it is no refusal. */
     private static final int NONE = -9;
+    /** The greatest int: what a search for the least begins with. */
+    private static final int ABOVE_ALL = 2147483647;
 
     private static final int COLOURS = 4;
     private static final int MOST_SQUARES = 20;
@@ -839,7 +841,7 @@ public final class DrawLooms {
         }
 
         private int cheapestAhead(int i, int limit) {
-            int least = Integer.MAX_VALUE;
+            int least = ABOVE_ALL;
             for (int j = Math.max(0, i - limit - 1); j < i; j++) {
                 least = Math.min(least, costs[j]);
             }
@@ -1095,7 +1097,7 @@ public final class DrawLooms {
                     places++;
                 }
             }
-            late = Integer.MAX_VALUE;
+            late = ABOVE_ALL;
             goOn(loom, 0, loom.day, loom.lot, 0);
             isKnown = true;
         }

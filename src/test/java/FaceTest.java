@@ -21,6 +21,11 @@ public final class FaceTest {
     private static final String FORBIDDEN = "\\b(throw|throws|try|catch|synchronized|assert|native|protected|"
         + "Exact|Random|Thread|Object|Exception)\\b|->|::|Exact\\(";
 
+    /** Rule 4 leaves more, but the class needs no more; what is new here is to be held against the rule. */
+    private static final Set<String> LIBRARY = Set.of("Arrays.fill", "System.arraycopy", "Integer.bitCount",
+        "Math.max", "Math.min");
+    private static final int MOST_LINES = 60;
+
     private final Due due = new Due();
 
     private FaceTest() { }
@@ -32,7 +37,10 @@ public final class FaceTest {
         for (Class<?> inside : DrawLooms.class.getDeclaredClasses()) {
             test.inside(inside);
         }
-        test.words();
+        String code = codeAlone(Files.readString(SOURCE));
+        test.words(code);
+        test.library(code);
+        test.lengths(code);
         test.due.finish();
     }
 
@@ -86,10 +94,14 @@ public final class FaceTest {
         return !isFace && (" " + FACE).contains(" " + method.getName() + "/");
     }
 
-    private void words() throws IOException {
+    /** Comments go; their lines stay, so that methods keep their lengths. */
+    private static String codeAlone(String source) {
+        Matcher comment = Pattern.compile("(?s)/\\*.*?\\*/|//[^\n]*").matcher(source);
+        return comment.replaceAll(found -> found.group().replaceAll("[^\n]", ""));
+    }
+
+    private void words(String code) {
         due.about("rules 4, 6 and 13");
-        String source = Files.readString(SOURCE);
-        String code = source.replaceAll("(?s)/\\*.*?\\*/", "").replaceAll("//[^\n]*", "");
         Matcher found = Pattern.compile(FORBIDDEN).matcher(code);
         while (found.find()) {
             due.is("a word that is not free: " + found.group(), 1, 0);
@@ -99,5 +111,30 @@ public final class FaceTest {
             due.is("import of " + imports.group(1), imports.group(1).equals("java.util.Arrays") ? 1 : 0, 1);
         }
         due.is("at most twelve classes", DrawLooms.class.getDeclaredClasses().length <= 12 ? 1 : 0, 1);
+    }
+
+    private void library(String code) {
+        due.about("rule 4");
+        Matcher used = Pattern.compile("(?<![.\\w])[A-Z]\\w*[a-z]\\w*\\.\\w+").matcher(code.replace("java.util.Arrays", ""));
+        while (used.find()) {
+            due.is("use of " + used.group(), LIBRARY.contains(used.group()) ? 1 : 0, 1);
+        }
+        due.is("texts", code.indexOf('"'), -1);
+    }
+
+    private void lengths(String code) {
+        due.about("rule 11");
+        int start = 0;
+        String[] lines = code.split("\n");
+        for (int i = 0; i < lines.length; i++) {
+            if (lines[i].matches("( {4}| {8})(?!if |for |while |switch )\\w.*\\) \\{")) {
+                start = i;
+            } else if (lines[i].matches("( {4}| {8})\\}")) {
+                due.is("at most sixty lines up to line " + (i + 1), i - start < MOST_LINES ? 1 : 0, 1);
+            }
+            if (lines[i].matches(" {4}private static final class .*")) {
+                start = i;
+            }
+        }
     }
 }

@@ -1,9 +1,5 @@
 /** Each promise by itself: ordinary inputs, the edges that the document names, wrong inputs. */
-public final class PromisesTest {
-    private static final int LOW = Integer.MIN_VALUE;
-    private static final int HIGH = Integer.MAX_VALUE;
-    private static final Due due = new Due();
-
+public final class PromisesTest extends Bench {
     private PromisesTest() { }
 
     public static void main(String[] args) {
@@ -16,54 +12,6 @@ public final class PromisesTest {
         beams();
         counts();
         due.finish();
-    }
-
-    /** A design row by row, each row a text of colours. */
-    private static DrawLooms drawn(String... rows) {
-        DrawLooms x = new DrawLooms();
-        draw(x, rows);
-        return x;
-    }
-
-    private static void draw(DrawLooms x, String... rows) {
-        due.is("paper", x.paper(rows[0].length(), rows.length), 1);
-        for (int y = 0; y < rows.length; y++) {
-            for (int c = 0; c < rows[y].length(); c++) {
-                x.square(c, y, rows[y].charAt(c) - '0');
-            }
-        }
-    }
-
-    private static void isDrawn(DrawLooms x, String... rows) {
-        due.is("count(0)", x.count(0), rows[0].length());
-        due.is("count(1)", x.count(1), rows.length);
-        for (int y = 0; y < rows.length; y++) {
-            for (int c = 0; c < rows[y].length(); c++) {
-                due.is("at(" + c + ", " + y + ")", x.at(c, y), rows[y].charAt(c) - '0');
-            }
-        }
-    }
-
-    private static void isCloth(DrawLooms x, String... rows) {
-        for (int y = 0; y < rows.length; y++) {
-            for (int c = 0; c < rows[y].length(); c++) {
-                due.is("cloth(" + c + ", " + y + ")", x.cloth(c, y), rows[y].charAt(c) - '0');
-            }
-        }
-        due.is("cloth beside", x.cloth(rows[0].length(), 0), -1);
-        due.is("cloth below", x.cloth(0, rows.length), -1);
-    }
-
-    private static void isExplained(DrawLooms x, int kind, int a, int b) {
-        due.is("explained(0)", x.explained(0), kind);
-        due.is("explained(1)", x.explained(1), a);
-        due.is("explained(2)", x.explained(2), b);
-    }
-
-    private static void refusals(DrawLooms x, int... counts) {
-        for (int i = 0; i < counts.length; i++) {
-            due.is("count(" + (11 + i) + ")", x.count(11 + i), counts[i]);
-        }
     }
 
     // ---- promises 1 to 7
@@ -193,11 +141,6 @@ public final class PromisesTest {
         refusals(x, 0, 2, 0, 0, 0, 0);
     }
 
-    private static void spans(DrawLooms x, int squares, int rows) {
-        due.is("span(0)", x.span(0), squares);
-        due.is("span(1)", x.span(1), rows);
-    }
-
     private static void mirror() {
         due.about("promise 7");
         mirrors(drawn("0"), 0, 0);
@@ -217,11 +160,6 @@ public final class PromisesTest {
         due.is("what", x.mirror(2), -2);
         due.is("what", x.mirror(-1), -2);
         refusals(x, 0, 2, 0, 0, 0, 0);
-    }
-
-    private static void mirrors(DrawLooms x, int squares, int rows) {
-        due.is("mirror(0)", x.mirror(0), squares);
-        due.is("mirror(1)", x.mirror(1), rows);
     }
 
     // ---- promises 8 to 12
@@ -698,14 +636,6 @@ public final class PromisesTest {
         due.is("paid, all twelve", x.count(6), 12 * 2 * 3);
     }
 
-    private static void isBest(DrawLooms x, int late, int... row) {
-        due.is("best", x.best(), late);
-        for (int i = 0; i < row.length; i++) {
-            due.is("bestAt(" + i + ")", x.bestAt(i), row[i]);
-        }
-        due.is("bestAt behind", x.bestAt(row.length), -9);
-    }
-
     private static void working() {
         due.about("promise 26");
         DrawLooms x = new DrawLooms();
@@ -842,24 +772,12 @@ public final class PromisesTest {
         refusals(x, 4, 2, 0, 2, 0, 2);
     }
 
-    private static void isAccount(DrawLooms x, int account, int... parts) {
-        for (int what = 0; what < parts.length; what++) {
-            due.is("account(" + account + ", " + what + ")", x.account(account, what), parts[what]);
-        }
-    }
-
     // ---- promises 31 to 36
 
     private static void beams() {
         warps();
         joins();
         cards();
-    }
-
-    private static void isBeam(DrawLooms x, int beam, int... parts) {
-        for (int what = 0; what < parts.length; what++) {
-            due.is("beamOf(" + beam + ", " + what + ")", x.beamOf(beam, what), parts[what]);
-        }
     }
 
     private static void warps() {

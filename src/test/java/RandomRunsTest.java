@@ -49,7 +49,7 @@ public final class RandomRunsTest {
         for (int i = 0; i < a.length; i++) {
             text.append(i == 0 ? "" : ", ").append(a[i]);
         }
-        due.is(text.append(')').toString(), answer(name, a), model.call(name, a));
+        due.is(text.append(')').toString(), Calls.answer(real, name, a), model.call(name, a));
     }
 
     /** 0 .. many less 1 mostly; now and then beside these, or far off. */
@@ -109,55 +109,6 @@ public final class RandomRunsTest {
             case "beamOf": return new int[] {among(4), among(3)};
             case "orderOf": return new int[] {among(12), among(4)};
             case "count": return new int[] {among(17)};
-            default: throw new IllegalStateException(name);
-        }
-    }
-
-    private int answer(String name, int[] a) {
-        switch (name) {
-            case "paper": return real.paper(a[0], a[1]);
-            case "square": return real.square(a[0], a[1], a[2]);
-            case "fill": return real.fill(a[0], a[1], a[2], a[3]);
-            case "at": return real.at(a[0], a[1]);
-            case "span": return real.span(a[0]);
-            case "mirror": return real.mirror(a[0]);
-            case "cords": return real.cords();
-            case "cord": return real.cord(a[0]);
-            case "pull": return real.pull(a[0], a[1]);
-            case "pulls": return real.pulls();
-            case "pullOf": return real.pullOf(a[0], a[1]);
-            case "limit": return real.limit(a[0]);
-            case "floats": return real.floats(a[0], a[1]);
-            case "mend": return real.mend(a[0]);
-            case "fault": return real.fault(a[0], a[1], a[2]);
-            case "clear": return real.clear();
-            case "weave": return real.weave();
-            case "cloth": return real.cloth(a[0], a[1]);
-            case "see": return real.see(a[0], a[1], a[2]);
-            case "explained": return real.explained(a[0]);
-            default: return loomAnswer(name, a);
-        }
-    }
-
-    private int loomAnswer(String name, int[] a) {
-        switch (name) {
-            case "set": return real.set(a[0], a[1]);
-            case "order": return real.order(a[0], a[1], a[2]);
-            case "best": return real.best();
-            case "bestAt": return real.bestAt(a[0]);
-            case "work": return real.work(a[0]);
-            case "days": return real.days(a[0]);
-            case "law": return real.law(a[0], a[1], a[2]);
-            case "silk": return real.silk(a[0], a[1] == 1, a[2], a[3]);
-            case "account": return real.account(a[0], a[1]);
-            case "warp": return real.warp(a[0], a[1]);
-            case "cards": return real.cards(a[0]);
-            case "hang": return real.hang(a[0]);
-            case "cut": return real.cut(a[0], a[1]);
-            case "join": return real.join(a[0], a[1]);
-            case "beamOf": return real.beamOf(a[0], a[1]);
-            case "orderOf": return real.orderOf(a[0], a[1]);
-            case "count": return real.count(a[0]);
             default: throw new IllegalStateException(name);
         }
     }
