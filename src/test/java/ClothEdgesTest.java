@@ -45,7 +45,8 @@ public final class ClothEdgesTest extends Bench {
             due.is("fault", x.fault(f[0], f[1], f[2]), 1);
         }
         refusals(x, 0, 0, 0, 0, 0, 0);
-        int[][] wrong = {{1, 20, 0}, {1, -1, 0}, {2, 20, 0}, {2, -1, 0}, {3, 20, 0}, {3, 0, 20}, {3, -1, 0}, {3, 0, -1}};
+        int[][] wrong = {{1, 20, 0}, {1, -1, 0}, {2, 20, 0}, {2, -1, 0}, {3, 20, 0}, {3, 0, 20},
+            {3, -1, 0}, {3, 0, -1}};
         for (int[] f : wrong) {
             due.is("fault", x.fault(f[0], f[1], f[2]), -1);
         }
@@ -400,6 +401,15 @@ public final class ClothEdgesTest extends Bench {
         x.fault(2, 0, 0);
         x.weave();
         isExplained(x, -9, -9, -9);
+        x.clear();
+        for (int kind = 1; kind <= 3; kind++) {
+            x.fault(kind, 0, 1);
+            x.weave();
+            isExplained(x, kind, 0, kind == 3 ? 1 : -9);
+            x.see(2, 0, 0);
+            isExplained(x, -9, -9, -9);
+            x.clear();
+        }
         x = drawn("0");
         x.weave();
         x.see(0, 0, 1);

@@ -430,6 +430,9 @@ public final class DesignEdgesTest extends Bench {
     private static void mendingOfOneColour() {
         due.about("promise 15: one run of WIDE, round");
         isMended("0", 1);
+        isMended("0", 20);
+        isMended("000", 4);
+        isMended(times("2", 19), 20);
         isMended("33", 1, 0);
         isMended("33", 2);
         isMended("00000000", 8);

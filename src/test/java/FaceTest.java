@@ -115,7 +115,8 @@ public final class FaceTest {
 
     private void library(String code) {
         due.about("rule 4");
-        Matcher used = Pattern.compile("(?<![.\\w])[A-Z]\\w*[a-z]\\w*\\.\\w+").matcher(code.replace("java.util.Arrays", ""));
+        Pattern call = Pattern.compile("(?<![.\\w])[A-Z]\\w*[a-z]\\w*\\.\\w+");
+        Matcher used = call.matcher(code.replace("java.util.Arrays", ""));
         while (used.find()) {
             due.is("use of " + used.group(), LIBRARY.contains(used.group()) ? 1 : 0, 1);
         }

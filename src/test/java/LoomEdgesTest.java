@@ -90,7 +90,8 @@ public final class LoomEdgesTest extends Bench {
             }
         }
         refusals(x, 0, 0, 0, 0, 0, 0);
-        int[][] wrong = {{0, 0, 0, -4}, {100, 0, 0, -6}, {1, -1, 0, -4}, {1, 6, 0, -6}, {1, 0, -1, -4}, {1, 0, 2001, -6}};
+        int[][] wrong = {{0, 0, 0, -4}, {100, 0, 0, -6}, {1, -1, 0, -4}, {1, 6, 0, -6}, {1, 0, -1, -4},
+            {1, 0, 2001, -6}};
         for (int[] w : wrong) {
             due.is("order", x.order(w[0], w[1], w[2]), w[3]);
         }
@@ -463,7 +464,8 @@ public final class LoomEdgesTest extends Bench {
         DrawLooms x = new DrawLooms();
         due.is("least", x.silk(0, false, 1, 0), 1);
         due.is("greatest", x.silk(5, true, 100000, 40), 71428);
-        int[][] wrong = {{-1, 1, 0, -1}, {6, 1, 0, -1}, {0, 0, 0, -4}, {0, 100001, 0, -6}, {0, 1, -1, -4}, {0, 1, 41, -6}};
+        int[][] wrong = {{-1, 1, 0, -1}, {6, 1, 0, -1}, {0, 0, 0, -4}, {0, 100001, 0, -6}, {0, 1, -1, -4},
+            {0, 1, 41, -6}};
         for (int[] w : wrong) {
             due.is("silk out", x.silk(w[0], false, w[1], w[2]), w[3]);
             due.is("silk home", x.silk(w[0], true, w[1], w[2]), w[3]);
