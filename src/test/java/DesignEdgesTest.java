@@ -28,6 +28,7 @@ public final class DesignEdgesTest extends Bench {
         mendingRound();
         mendingOfOneColour();
         mendedIsWithNoOther();
+        mendingOneBehindAnother();
         due.finish();
     }
 
@@ -459,5 +460,21 @@ public final class DesignEdgesTest extends Bench {
         isMended("0011", 1, 0, 2);
         isMended("110022", 1, 0, 2, 4);
         isMended("211002", 1, 0, 1, 3);
+    }
+
+    private static void mendingOneBehindAnother() {
+        due.about("promise 15: MENDING a PICK knows nothing of another PICK");
+        DrawLooms x = drawn("01111111", "01230123", "00001111", "22222222", "00110011");
+        x.limit(3);
+        int[] bits = {1 << 4, 0, 1 | 1 << 4, 1 | 1 << 4, 0};
+        for (int y = 0; y < bits.length; y++) {
+            for (int other = 0; other < bits.length; other++) {
+                due.is("mend(" + other + ")", x.mend(other), bits[other]);
+                due.is("mend(" + y + ") behind it", x.mend(y), bits[y]);
+            }
+        }
+        due.about("promise 15: as many runs as there can be");
+        isMended(times("01", 10), 1);
+        isMended(times("01", 9) + "0", 1, 0);
     }
 }

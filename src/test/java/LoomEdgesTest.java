@@ -12,6 +12,7 @@ public final class LoomEdgesTest extends Bench {
         lateIsBehindDue();
         bestOfNoneAndOne();
         bestOfSeven();
+        bestOfTwelve();
         bestCountsNoDayAhead();
         bestFirstByNumbers();
         bestFromNowOn();
@@ -189,6 +190,22 @@ public final class LoomEdgesTest extends Bench {
         x.work(3);
         isBest(x, 2 + 3 + 4 + 5 + 6 + 7 + 8, 0, 1, 2, 4, 5, 6, 7);
         refusals(x, 0, 0, 4, 0, 0, 0);
+    }
+
+    private static void bestOfTwelve() {
+        due.about("promises 23, 24: 12 ORDERS, 7 at most of them open");
+        DrawLooms x = plain();
+        for (int i = 0; i < 12; i++) {
+            x.order(1, 0, 0);
+        }
+        for (int i = 0; i < 12; i++) {
+            int open = 12 - i;
+            due.is(open + " open", x.best(), open > 7 ? -3 : open * i + open * (open + 1) / 2);
+            due.is(open + " open, the last one", x.bestAt(open - 1), open > 7 ? -3 : 11);
+            due.is("work", x.work(i), i + 1);
+        }
+        isBest(x, 0);
+        refusals(x, 0, 0, 10, 0, 0, 0);
     }
 
     private static void bestCountsNoDayAhead() {
